@@ -63,7 +63,7 @@ public final class EchoFair {
             input.add(FIRST_CONFIGURATION.charAt(i));
         }
         if (configuration.parse()) {
-            becomeDraft();
+            adoptDraft();
         }
         input.length = 0;
     }
@@ -97,7 +97,7 @@ public final class EchoFair {
         if (!valid) {
             throw new IllegalArgumentException("the configuration has an error");
         }
-        becomeDraft();
+        adoptDraft();
         return world.echoCount;
     }
 
@@ -109,11 +109,12 @@ public final class EchoFair {
             throw new IllegalArgumentException("the command text has an error");
         }
         history.push(world);
-        int executed = 0;
-        while (executed < commands.count && perform(executed)) {
-            executed++;
+        for (int command = 0; command < commands.count; command++) {
+            if (!perform(command)) {
+                return command;
+            }
         }
-        return executed;
+        return commands.count;
     }
 
     public int errorCode() {
@@ -542,7 +543,7 @@ public final class EchoFair {
         return world.valleys[valley];
     }
 
-    private void becomeDraft() {
+    private void adoptDraft() {
         world.copyFrom(draft);
         season.copyFrom(draftSeason);
         history.count = 0;
@@ -1165,7 +1166,7 @@ public final class EchoFair {
         int hold(World world) {
             enrol(world);
             weigh(world);
-            for (int head = 0; head < queued; head++) {
+            for (int head = 0; head < queued && head < queue.length; head++) {
                 int echo = queue[head];
                 int valley = favourite(world, echo);
                 if (valley != NONE) {
