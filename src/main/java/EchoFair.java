@@ -1360,9 +1360,13 @@ public final class EchoFair {
             return kind == SEMICOLON || fail(SYNTAX_ERROR);
         }
 
+        private boolean isName() {
+            return kind == WORD && size <= MAX_NAME_LETTERS;
+        }
+
         boolean takeName() {
             next();
-            return kind == WORD && size <= MAX_NAME_LETTERS || fail(SYNTAX_ERROR);
+            return isName() || fail(SYNTAX_ERROR);
         }
 
         boolean takeNumber(int least, int most) {
@@ -1379,8 +1383,9 @@ public final class EchoFair {
 
         /** Takes the name of an echo of this world; its number is the value. */
         boolean takeEcho(World world) {
-            if (!takeName()) {
-                return false;
+            next();
+            if (!isName()) {
+                return fail(SYNTAX_ERROR);
             }
             value = world.echoNamed(text.nameAt(start, size));
             return value != NONE || fail(NAME_ERROR);
@@ -1388,8 +1393,9 @@ public final class EchoFair {
 
         /** Takes the name of a valley of this world; its number is the value. */
         boolean takeValley(World world) {
-            if (!takeName()) {
-                return false;
+            next();
+            if (!isName()) {
+                return fail(SYNTAX_ERROR);
             }
             value = world.valleyNamed(text.nameAt(start, size));
             return value != NONE || fail(NAME_ERROR);

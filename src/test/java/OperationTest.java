@@ -229,6 +229,15 @@ public final class OperationTest {
         fair.undo();
         CHECK.same("59: dismissed", fair.employerOf(0), 0);
         CHECK.same("59: staff of the dismissed", fair.staffMember(0, 0), 0);
+        EchoFair order = Check.loaded("fair 9;fog 0;echo a 1 1 9 9;echo b 1 1 1 9;"
+            + "valley v 1 3 1 0;");
+        order.holdFair();
+        order.setWage(0, 9);
+        order.holdFair();
+        order.dismiss(1);
+        CHECK.same("59: without b", Check.contracts(order), "v=a");
+        order.undo();
+        CHECK.same("59: b again, and first", Check.contracts(order), "v=b+a");
         fair.fund(1, 9);
         fair.undo();
         CHECK.same("59: funds", fair.purseOf(1), 5);

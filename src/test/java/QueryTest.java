@@ -298,6 +298,12 @@ public final class QueryTest {
             CHECK.same("34: echo " + echo, fair.fairResult(echo), want[echo]);
         }
         CHECK.same("34: changes nothing", fair.employerOf(0), -1);
+        EchoFair cheap = new EchoFair();
+        CHECK.same("34: acceptable", cheap.fairResult(1), 1);
+        cheap.setWage(0, 1);
+        cheap.setWage(1, 1);
+        cheap.setWage(2, 1);
+        CHECK.same("34: no longer acceptable", cheap.fairResult(1), -1);
         CHECK.same("34: counts nothing", fair.contractsMade(), 0);
         CHECK.state("34: is no operation", fair::undo);
         fair.holdFair();

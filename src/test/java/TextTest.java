@@ -11,6 +11,7 @@ public final class TextTest {
         truncate();
         load();
         loadReplacesEverything();
+        loadAfterSimulations();
         loadSyntax();
         loadRanges();
         loadNames();
@@ -163,11 +164,47 @@ public final class TextTest {
         CHECK.same("4: undo after an error", fair.undo(), 0);
     }
 
+    /** Simulations leave nothing behind that a new configuration would meet. */
+    private static void loadAfterSimulations() {
+        EchoFair fair = new EchoFair();
+        fair.fund(2, 500);
+        fair.savingsAfter(0, 119);
+        Check.type(fair, "fair 0;");
+        CHECK.argument("4: an error first", fair::load);
+        CHECK.same("6: error first", fair.errorCode(), 2);
+        Check.type(fair, "fair 7;fog 1;echo zaz 3 6 9 5;echo mz 8 2 4 1;echo q 1 1 1 1;"
+            + "echo r 1 1 1 1;valley p 4 1 10 60;valley q 4 1 10 60;valley r 4 1 10 60;");
+        CHECK.same("4: echoes", fair.load(), 4);
+        CHECK.same("6: no error then", fair.errorCode(), 0);
+        CHECK.same("7: no error then", fair.errorPosition(), -1);
+        CHECK.same("10: day", fair.day(), 0);
+        CHECK.same("42: made", fair.contractsMade(), 0);
+        CHECK.same("43: ended", fair.contractsEnded(), 0);
+        CHECK.same("47: money", fair.moneyImbalance(), 0);
+        CHECK.same("62: no contracts", Check.contracts(fair), "p= q= r=");
+        for (int echo = 0; echo < 4; echo++) {
+            CHECK.same("19: savings", fair.savingsOf(echo), 0);
+            CHECK.same("20: unpaid", fair.unpaidDays(echo), 0);
+            CHECK.same("21: employer", fair.employerOf(echo), -1);
+            CHECK.same("44: desertions", fair.desertions(echo), 0);
+            for (int valley = 0; valley < 3; valley++) {
+                CHECK.same("41: served", fair.daysServed(valley, echo), 0);
+                CHECK.same("30: reason", fair.pairReason(valley, echo), 0);
+                CHECK.same("45: replies", fair.repliesHeard(valley), 0);
+                CHECK.same("46: wages", fair.wagesPaid(valley), 0);
+            }
+        }
+        Check.type(fair, "zaz");
+        CHECK.same("13: a name with z", fair.findEcho(), 0);
+    }
+
     private static void loadSyntax() {
         CHECK.badLoad("", 1, 0);
         CHECK.badLoad("   ", 1, 3);
         CHECK.badLoad("fairy 5;", 1, 0);
         CHECK.badLoad("fai", 1, 0);
+        CHECK.badLoad("hair 5;", 1, 0);
+        CHECK.badLoad("fain 5;", 1, 0);
         CHECK.badLoad("Fair 5;", 1, 0);
         CHECK.badLoad("fair;", 1, 4);
         CHECK.badLoad("fair 00005;", 1, 5);
@@ -292,6 +329,12 @@ public final class TextTest {
             CHECK.same("6: no error at " + stops[i], stopped.errorCode(), 0);
             CHECK.same("7: no error at " + stops[i], stopped.errorPosition(), -1);
         }
+        EchoFair twice = new EchoFair();
+        CHECK.same("5: first text", Check.run(twice, "fund old 1;fair;dismiss horn;"), 3);
+        CHECK.same("5: dismissed", twice.employerOf(3), -1);
+        CHECK.same("5: second text", Check.run(twice, "fund old 2;"), 1);
+        CHECK.same("5: purse", twice.purseOf(2), 33);
+        CHECK.same("5: fund is no cost", twice.moneyImbalance(), 0);
         EchoFair employed = new EchoFair();
         CHECK.same("5: no test with a contract", Check.run(employed, "fair;test green horn;"), 1);
         CHECK.same("5: trained to nine", Check.run(new EchoFair(),
