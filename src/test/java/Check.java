@@ -53,6 +53,19 @@ final class Check {
         same(what + " throws", got, kind.getName());
     }
 
+    /** Runs the test of a sentence of the document, and names the sentence if it does not hold. */
+    void sentence(String sentence, Runnable test) {
+        int before = wrong;
+        try {
+            test.run();
+        } catch (RuntimeException e) {
+            report("a call threw " + e);
+        }
+        if (wrong > before) {
+            System.out.println(name + ": THIS DOES NOT HOLD: " + sentence);
+        }
+    }
+
     void report(String text) {
         wrong++;
         if (wrong <= 40) {
