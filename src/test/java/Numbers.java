@@ -1,4 +1,4 @@
-/** Calls with the numbers of echoes and valleys that there are, and with those that there are not. */
+/** Calls with the numbers of echoes and valleys that there are, and with others. */
 final class Numbers {
     interface Call {
         void with(EchoFair fair, int number);

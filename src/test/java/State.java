@@ -24,8 +24,10 @@ final class State {
                     fair.daysServed(valley, echo));
             }
         }
-        for (int index = 0; fair.outputByte(index) >= 0; index++) {
-            text.append((char) fair.outputByte(index));
+        int sign = fair.outputByte(0);
+        for (int index = 1; sign >= 0; index++) {
+            text.append((char) sign);
+            sign = fair.outputByte(index);
         }
         return text.toString();
     }
