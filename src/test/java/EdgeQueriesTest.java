@@ -52,6 +52,12 @@ public final class EdgeQueriesTest {
         edges.section("Promise 2");
         edges.holds("Appends 20 bytes to the input buffer: the four bytes of each parameter, the"
             + " most significant byte first.", EdgeQueriesTest::placesOfTheBytes);
+        String[] parameters = {"`a`: bytes 0 to 3", "`b`: bytes 4 to 7", "`c`: bytes 8 to 11",
+            "`d`: bytes 12 to 15", "`e`: bytes 16 to 19"};
+        for (int i = 0; i < parameters.length; i++) {
+            int parameter = i;
+            edges.holds(parameters[i], () -> bytesOf(parameter));
+        }
         edges.holds("Returns the new length of the input buffer.", EdgeQueriesTest::newLengths);
         edges.holds("Throws `IllegalStateException` if the new length would exceed 900",
             EdgeQueriesTest::fullBuffer);
@@ -271,6 +277,24 @@ public final class EdgeQueriesTest {
         named.append(0x796f6465, 0x6c000000, -1, Integer.MIN_VALUE, Integer.MAX_VALUE);
         named.truncate(5);
         CHECK.same("yodel", named.findEcho(), 0);
+    }
+
+    /** Bytes 255 from some place of a parameter to its end: the first of them is the error. */
+    private static void bytesOf(int parameter) {
+        int[] words = {0x20202020, 0x20202020, 0x20202020, 0x20202020, 0x20202020};
+        for (int place = 3; place >= 0; place--) {
+            words[parameter] |= 255 << 24 - 8 * place;
+            EchoFair fair = new EchoFair();
+            fair.append(words[0], words[1], words[2], words[3], words[4]);
+            CHECK.argument("bytes from " + place, fair::load);
+            CHECK.same("place", fair.errorPosition(), 4 * parameter + place);
+        }
+        int[] name = {0x20202020, 0x20202020, 0x20202020, 0x20202020, 0x20202020};
+        name[parameter] = 0x66616972;
+        EchoFair fair = new EchoFair();
+        fair.append(name[0], name[1], name[2], name[3], name[4]);
+        CHECK.argument("a word alone", fair::load);
+        CHECK.same("the text ends behind it", fair.errorPosition(), 20);
     }
 
     private static void newLengths() {

@@ -52,6 +52,8 @@ public final class EdgeSimulationsTest {
 
     private static void simulatedDays(Edges edges) {
         edges.section("Promise 35");
+        edges.holds("Simulates days without any operation and returns the savings of an echo.",
+            () -> noOperation(fair -> fair.savingsAfter(0, 9)));
         edges.holds("`days`: number of days, 0 to 120", () -> {
             CHECK.same("none", new EchoFair().savingsAfter(0, 0), 0);
             CHECK.same("the most", worker().savingsAfter(0, 120), 240);
@@ -61,6 +63,8 @@ public final class EdgeSimulationsTest {
         edges.holds(NO_ECHO, EdgeSimulationsTest::savingsOfNoEcho);
         edges.holds(NO_DAYS, EdgeSimulationsTest::savingsAfterNoSuchDays);
         edges.section("Promise 36");
+        edges.holds("Simulates days without any operation and returns the purse of a valley.",
+            () -> noOperation(fair -> fair.purseAfter(0, 9)));
         edges.holds("`days`: number of days, 0 to 120", () -> {
             CHECK.same("none", new EchoFair().purseAfter(0, 0), 60);
             CHECK.same("the most", worker().purseAfter(0, 120), 121);
@@ -69,6 +73,8 @@ public final class EdgeSimulationsTest {
         edges.holds(NO_VALLEY, EdgeSimulationsTest::purseOfNoValley);
         edges.holds(NO_DAYS, EdgeSimulationsTest::purseAfterNoSuchDays);
         edges.section("Promise 37");
+        edges.holds("Simulates days without any operation until an echo deserts.",
+            () -> noOperation(fair -> fair.desertsIn(0)));
         edges.holds("Returns the smallest number of days from 1 to 120 after which the echo has"
             + " deserted once more than now, or NONE if there is none.",
             EdgeSimulationsTest::desertsFromOneTo120);
@@ -77,6 +83,8 @@ public final class EdgeSimulationsTest {
 
     private static void choices(Edges edges) {
         edges.section("Promise 38");
+        edges.holds("Finds the smallest wage with which a valley would win an echo at a fair now.",
+            EdgeSimulationsTest::wagesOfNow);
         edges.holds("Returns the smallest wage from 1 to 99 with which fairResult(echo) would be"
             + " the valley, or NONE if there is none.", EdgeSimulationsTest::wagesFromOneTo99);
         edges.holds(NO_PAIR, () -> NUMBERS.ofPairs(EchoFair::leastWage));
@@ -121,6 +129,8 @@ public final class EdgeSimulationsTest {
         edges.holds("Returns the difference, which is always 0.",
             () -> always("contracts", EchoFair::contractImbalance));
         edges.section("Promise 49");
+        edges.holds("Counts the echoes that serve more than one valley.",
+            EdgeSimulationsTest::oneValleyEach);
         edges.holds("Returns the number of echoes, which is always 0.",
             () -> always("servants", EchoFair::doubleServants));
         edges.section("Promise 50");
@@ -164,6 +174,16 @@ public final class EdgeSimulationsTest {
         CHECK.same("two operations, and no more", fair.undo(), 1);
         CHECK.same("the saved day", fair.restore(), 1);
         CHECK.same("the saved state", State.of(fair), before);
+    }
+
+    private static void noOperation(Query simulation) {
+        EchoFair fair = new EchoFair();
+        fair.setWage(0, 11);
+        int first = simulation.of(fair);
+        CHECK.same("the same answer again", simulation.of(fair), first);
+        CHECK.same("only the wage can be undone", fair.undo(), 0);
+        CHECK.state("nothing else", fair::undo);
+        CHECK.same("nobody was hired", fair.contractsMade(), 0);
     }
 
     private static void acceptableAndNotServing() {
@@ -432,6 +452,19 @@ public final class EdgeSimulationsTest {
             + "tested v a;").leastWage(0, 0), -1);
     }
 
+    /** What the season's end would change does not count. */
+    private static void wagesOfNow() {
+        EchoFair fair = Check.loaded("fair 1;fog 9;echo a 1 1 2 0;echo b 1 1 2 0;"
+            + "valley v 1 1 2 0;valley w 1 1 1 0;");
+        fair.passDays(1);
+        CHECK.same("a has deserted v", fair.leastWage(0, 0), -1);
+        CHECK.same("but not w", fair.leastWage(1, 0), 2);
+        CHECK.same("b takes the post of v", fair.leastWage(0, 1), 2);
+        fair.holdFair();
+        CHECK.same("it serves v, whatever the wage", fair.leastWage(0, 1), 1);
+        CHECK.same("the contract stays", fair.leastWage(1, 1), -1);
+    }
+
     private static void testOrNone() {
         EchoFair fair = Check.loaded(HEAD + "echo a 9 1 9 0;echo b 9 2 9 0;echo c 9 2 1 0;"
             + "echo d 9 2 9 0;valley v 1 1 1 0;valley w 1 1 1 0;tested w b;");
@@ -625,6 +658,25 @@ public final class EdgeSimulationsTest {
         CHECK.same(what + " after restore", query.of(fair), 0);
         fair.passDays(60);
         CHECK.same(what + " in the end", query.of(fair), 0);
+    }
+
+    private static void oneValleyEach() {
+        EchoFair fair = Check.loaded(Numbers.crowd(12, 8));
+        for (int valley = 0; valley < 8; valley++) {
+            fair.setWage(valley, 2 + valley);
+            fair.holdFair();
+            fair.passDays(30);
+            CHECK.same("servants", fair.doubleServants(), 0);
+            int staff = 0;
+            int employed = 0;
+            for (int i = 0; i < 8; i++) {
+                staff += fair.staffCount(i);
+            }
+            for (int echo = 0; echo < 12; echo++) {
+                employed += fair.employerOf(echo) == EchoFair.NONE ? 0 : 1;
+            }
+            CHECK.same("each contract is of another echo", employed, staff);
+        }
     }
 
     private static void meanOfSavings() {
