@@ -503,8 +503,13 @@ public final class EdgeSimulationsTest {
         fair.holdFair();
         fair.passDays(4);
         CHECK.same("d, the last, has most", fair.richestEcho(), 3);
-        EchoFair one = Check.loaded(Numbers.crowd(1, 1));
-        CHECK.same("of one", one.richestEcho(), 0);
+        EchoFair twelve = Check.loaded(Numbers.crowd(12, 8));
+        CHECK.same("of twelve", twelve.richestEcho(), 0);
+        Check.run(twelve, "test z a;fund z 1;wage z 2;pass 1;");
+        CHECK.same("not the first of twelve", twelve.richestEcho(), 1);
+        Check.type(twelve, Numbers.crowd(1, 1));
+        twelve.load();
+        CHECK.same("of one", twelve.richestEcho(), 0);
     }
 
     private static void servedAtStepTwo() {

@@ -406,6 +406,13 @@ public final class EdgeTermsTest {
         fair.setWage(2, 2);
         CHECK.same("of equal wages v comes first for b", fair.fairResult(1), 0);
         CHECK.same("then a takes x", fair.fairResult(0), 2);
+        EchoFair later = Check.loaded(HEAD + "echo a 1 1 5 0;valley v 1 1 5 0;valley w 1 1 6 0;");
+        later.holdFair();
+        later.dismiss(0);
+        later.setWage(0, 4);
+        CHECK.same("it applied to w at another fair", later.fairResult(0), 1);
+        later.setWage(1, 4);
+        CHECK.same("both were acceptable at another fair", later.fairResult(0), -1);
     }
 
     private static void noValleyIsLeft() {

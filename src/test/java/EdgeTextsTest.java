@@ -324,6 +324,40 @@ public final class EdgeTextsTest {
         CHECK.badLoad(WHOLE + "tested b 1;", 1, 54);
         CHECK.badLoad(WHOLE + "tested b a a;", 1, 56);
         CHECK.badLoad(WHOLE + "pass 1;", 1, 45);
+        for (String word : almost("fair")) {
+            CHECK.badLoad(word + " 5;fog 2;" + ECHO + VALLEY, 1, 0);
+        }
+        for (String word : almost("fog")) {
+            CHECK.badLoad("fair 5;" + word + " 2;" + ECHO + VALLEY, 1, 7);
+        }
+        String[] statements = {"echo", "valley", "tested"};
+        for (String statement : statements) {
+            for (String word : almost(statement)) {
+                CHECK.badLoad(WHOLE + word + " c 1 1 1 0;", 1, 45);
+                CHECK.badLoad(WHOLE + word + " b a;", 1, 45);
+            }
+        }
+        String[] commands = {"pass", "fair", "test", "dismiss", "wage", "fund", "train"};
+        for (String command : commands) {
+            for (String word : almost(command)) {
+                CHECK.badCommands(word + ";", 1, 0);
+                CHECK.badCommands("fair;" + word + " 1;", 1, 5);
+                CHECK.badCommands("fair;" + word + " old bell;", 1, 5);
+            }
+        }
+    }
+
+    /** The word with one letter changed, left out or doubled. */
+    private static String[] almost(String word) {
+        String[] words = new String[3 * word.length()];
+        for (int i = 0; i < word.length(); i++) {
+            String before = word.substring(0, i);
+            String behind = word.substring(i + 1);
+            words[3 * i] = before + (char) (word.charAt(i) + 1) + behind;
+            words[3 * i + 1] = before + behind;
+            words[3 * i + 2] = before + word.charAt(i) + word.charAt(i) + behind;
+        }
+        return words;
     }
 
     private static void longNames() {
@@ -552,10 +586,26 @@ public final class EdgeTextsTest {
         CHECK.same("day", nine.day(), 30);
     }
 
+    /** Whatever was done, and whatever was simulated last. */
     private static void loadReplacesEverything() {
+        for (int days = 0; days <= 12; days++) {
+            EchoFair fair = new EchoFair();
+            fair.passDays(2);
+            fair.test(0, 2);
+            fair.train(0);
+            fair.fund(1, 5);
+            fair.fund(1, 5);
+            fair.undo();
+            fair.purseAfter(0, days);
+            loadAnother(fair);
+        }
         EchoFair fair = new EchoFair();
-        fair.passDays(2);
-        fair.test(0, 2);
+        Check.type(fair, "fair 3;fog 1;" + ECHO + VALLEY + "tested b a;echo c 1 1 1;");
+        CHECK.argument("a load that ends late", fair::load);
+        loadAnother(fair);
+    }
+
+    private static void loadAnother(EchoFair fair) {
         Check.type(fair, "fair 3;fog 1;echo a 1 1 1 0;echo c 1 1 1 0;echo d 1 1 1 0;"
             + "echo e 1 1 1 0;valley b 1 3 1 0;valley f 1 1 1 0;valley g 1 1 1 0;");
         CHECK.same("echoes", fair.load(), 4);
