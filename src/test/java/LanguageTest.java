@@ -1,10 +1,14 @@
 import java.io.IOException;
+import java.lang.reflect.Field;
+import java.lang.reflect.Method;
+import java.lang.reflect.Modifier;
 import java.nio.file.Files;
 import java.nio.file.Path;
+import java.util.Arrays;
 import java.util.regex.Matcher;
 import java.util.regex.Pattern;
 
-/** The rules of LANGUAGE.md that can be seen in the text of the program. */
+/** The rules of LANGUAGE.md that the text of the program and its compiled classes show. */
 public final class LanguageTest {
     private static final String[] BANNED = {
         "import", "package", "finally", "synchronized", "assert", "instanceof", "lambda",
@@ -31,7 +35,53 @@ public final class LanguageTest {
             }
         }
         newOnlyInConstructors(check, bare);
+        sizes(check, source);
+        staticFields(check, EchoFair.class);
+        for (Class<?> inside : EchoFair.class.getDeclaredClasses()) {
+            staticFields(check, inside);
+        }
         check.finish();
+    }
+
+    /** Rule 11: classes, fields, parameters and the lines of a method. */
+    private static void sizes(Check check, String source) {
+        Class<?>[] insides = EchoFair.class.getDeclaredClasses();
+        check.yes("12 classes at most", insides.length + 1 <= 12);
+        fieldsAndParameters(check, EchoFair.class);
+        for (Class<?> inside : insides) {
+            fieldsAndParameters(check, inside);
+        }
+        Matcher methods = Pattern.compile("(?ms)^( {4}| {8})\\S[^;=]*?\\{$.*?^\\1\\}$").matcher(
+            source.replaceAll("(?m)^ {4}private static final class .*$", ""));
+        int found = 0;
+        while (methods.find()) {
+            found++;
+            String text = methods.group();
+            check.yes("60 lines at most: " + text.lines().findFirst().orElse("").trim(),
+                text.lines().count() <= 60);
+        }
+        check.yes("methods are found", found > 100);
+    }
+
+    private static void fieldsAndParameters(Check check, Class<?> owner) {
+        long fields = Arrays.stream(owner.getDeclaredFields())
+            .filter(field -> !Modifier.isStatic(field.getModifiers())).count();
+        check.yes(owner.getName() + " has 20 fields at most", fields <= 20);
+        for (Method method : owner.getDeclaredMethods()) {
+            check.yes(owner.getName() + "." + method.getName() + " takes seven parameters at most",
+                method.getParameterCount() <= 7);
+        }
+    }
+
+    /** Rule 5: static fields are final, and no array among them that a call could change. */
+    private static void staticFields(Check check, Class<?> owner) {
+        for (Field field : owner.getDeclaredFields()) {
+            if (Modifier.isStatic(field.getModifiers())) {
+                check.yes(owner.getName() + "." + field.getName() + " is a constant",
+                    Modifier.isFinal(field.getModifiers())
+                        && (field.getType().isPrimitive() || field.getType() == String.class));
+            }
+        }
     }
 
     /** No call makes anything, so no run of calls can fill the room: only exceptions are made. */
